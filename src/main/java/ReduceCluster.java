@@ -146,7 +146,7 @@ public final class ReduceCluster {
     public int output(int p, int i, int what) throws IllegalArgumentException, NoSuchElementException {
         demandRange(p, 0, PARTITIONS - 1);
         demandRange(what, 0, 1);
-        if (jobsEnded == 0 || p >= endedJob.partitions) {
+        if (p >= endedJob.partitions) {
             throw new NoSuchElementException();
         }
         Pairs pairs = endedJob.reduced[p];
@@ -160,9 +160,6 @@ public final class ReduceCluster {
     }
 
     public int find(int key) throws NoSuchElementException {
-        if (jobsEnded == 0) {
-            throw new NoSuchElementException();
-        }
         Pairs pairs = endedJob.reduced[endedJob.partitionOf(key)];
         int i = pairs.indexOf(key);
         if (i == NONE) {
@@ -317,9 +314,9 @@ public final class ReduceCluster {
             if (workers[w].task == null) {
                 giveTask(w);
             }
-            if (workers[w].finishes()) {
+            if (workers[w].doUnits()) {
                 somethingDone = true;
-                if (!bringHome(w)) {
+                if (!completeTask(w)) {
                     giveUpJob();
                     return FAILED;
                 }
@@ -333,7 +330,7 @@ public final class ReduceCluster {
     }
 
     /** The worker's task is done by it; answers false if that was a reduce task whose reducer fails. */
-    private boolean bringHome(int w) {
+    private boolean completeTask(int w) {
         Task task = workers[w].task;
         if (task == null) {
             return true;
@@ -384,13 +381,13 @@ public final class ReduceCluster {
         int mostLeft = 0;
         for (int t = 0; t < taskCount(map); t++) {
             Task task = tasks[t];
-            if (doers(task) != 1 || !canBeDone(task)) {
+            int doer = leastDoer(task);
+            if (doer == NONE || doers(task) > 1 || !canBeDone(task)) {
                 continue;
             }
-            int left = workers[leastDoer(task)].unitsLeft;
-            if (left > mostLeft) {
+            if (workers[doer].unitsLeft > mostLeft) {
                 best = task;
-                mostLeft = left;
+                mostLeft = workers[doer].unitsLeft;
             }
         }
         return best;
@@ -515,7 +512,7 @@ public final class ReduceCluster {
         }
 
         /** Works for one tick; answers whether the task has come to its end by that. */
-        boolean finishes() {
+        boolean doUnits() {
             if (task == null) {
                 return false;
             }
@@ -618,7 +615,8 @@ public final class ReduceCluster {
         final Pairs[] taken = new Pairs[PARTITIONS];
         final Pairs[] reduced = new Pairs[PARTITIONS];
         int reducer = REDUCE_SUM;
-        int partitions = 1;
+        // None before the first job: so there is no output before one has ended.
+        int partitions = 0;
         int least = Integer.MIN_VALUE;
 
         Job() {
@@ -634,7 +632,6 @@ public final class ReduceCluster {
             this.least = least;
             for (int p = 0; p < PARTITIONS; p++) {
                 taken[p].size = 0;
-                reduced[p].size = 0;
             }
         }
 

@@ -57,6 +57,37 @@ public final class FunctionsTest {
             find(1) -> 100                       // 3, 7
             find(2) -> 30784                     // four times 1
             """);
+        script.play("SIGNS next to 0", """
+            chunk(0x0100FF, 3, 1) -> 0           // -1, 0, 1
+            begin(4, 1, 1, 2) -> 1
+            run(100)
+            find(-1) -> 1
+            find(0) -> 1
+            find(1) -> 1
+            find(2) -> 2
+            """);
+        script.play("as many pairs as there can be", """
+            chunk(0x808080808080, 6, 1000) -> 0  // -128000 six times
+            chunk(0x808080808080, 6, 1000) -> 1
+            chunk(0x808080808080, 6, 1000) -> 2
+            chunk(0x808080808080, 6, -1000) -> 3
+            chunk(0x808080808080, 6, -1000) -> 4
+            chunk(0x808080808080, 6, -1000) -> 5
+            begin(1, 0, 1, 2) -> 6
+            count(6) -> 216
+            task(true, 5, 2) -> 18
+            task(true, 5, 1) -> 30
+            run(100) -> 100
+            task(false, 0, 1) -> 217
+            run(100) -> 100
+            run(100)
+            count(3) -> 1
+            output(0, -1, 0) -> 4
+            find(0) -> 108
+            find(1) -> 36
+            find(2) -> 36
+            find(8) -> 36
+            """);
         script.play("SUM, HOW MANY, GREATEST", """
             chunk(0xFA03FD, 3, 1) -> 0           // -3, 3, -6
             chunk(0xFFFEFC, 3, 1) -> 1           // -4, -2, -1: keys 2, 1, 2

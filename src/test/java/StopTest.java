@@ -33,6 +33,21 @@ public final class StopTest {
             output(0, -1, 0) -> missing
             find(0) -> missing
             """);
+        script.play("all workers are idle after it", """
+            chunk(3, 1, 1) -> 0
+            chunk(3, 1, 1) -> 1
+            begin(2, 0, 1, 2) -> 2
+            run(1) -> 1
+            ofWorker(0, 1) -> 0
+            ofWorker(3, 1) -> 1
+            stop()
+            ofWorker(0, 1) -> -1
+            ofWorker(0, 2) -> 0
+            ofWorker(1, 1) -> -1
+            ofWorker(2, 1) -> -1
+            ofWorker(3, 1) -> -1
+            ofWorker(3, 2) -> 0
+            """);
         script.play("without output: that of the latest that ended stays", """
             chunk(0x0103, 2, 1) -> 0             // keys 0 and 1
             begin(2, 0, 1, 2) -> 1

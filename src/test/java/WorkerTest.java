@@ -177,6 +177,25 @@ public final class WorkerTest {
             task(true, 1, 3) -> 2
             task(true, 2, 0) -> 0
             """);
+        script.play("the reduce task of worker 0 is given up, too", """
+            chunk(0x01030103, 4, 1) -> 0         // 10 units; then 3 for each of two partitions
+            speed(1, 4)
+            begin(2, 0, 2, 2) -> 1
+            run(4) -> 4
+            task(true, 0, 3) -> 1
+            task(false, 1, 3) -> 1
+            ofWorker(0, 1) -> 8
+            ofWorker(0, 2) -> 2
+            ofWorker(2, 1) -> 8
+            ofWorker(2, 2) -> 1
+            worker(1, false)
+            count(5) -> 1
+            ofWorker(0, 1) -> -1
+            ofWorker(0, 2) -> 0
+            ofWorker(2, 1) -> -1
+            task(false, 0, 0) -> 0
+            task(false, 1, 0) -> 2
+            """);
         script.play("without a job under way nothing is lost", """
             chunk(3, 1, 1) -> 0
             begin(2, 0, 1, 2) -> 1
