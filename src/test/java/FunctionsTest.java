@@ -130,6 +130,13 @@ public final class FunctionsTest {
             begin(2, 4, 1, 2) -> 5
             run(100) -> fails
             """);
+        script.play("QUOTIENT by 1 and by -1", """
+            chunk(0xFF080107, 4, 1) -> 0         // key 1: 7, 1; key 2: 8, -1
+            begin(2, 4, 1, 2) -> 1
+            run(100)
+            find(1) -> 7
+            find(2) -> -8
+            """);
         script.end();
     }
 }
