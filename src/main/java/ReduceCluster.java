@@ -14,6 +14,7 @@ public final class ReduceCluster {
     private static final int LAST_FUNCTION = 4;
     private static final int REDUCE_TASKS_FROM = 8;
     private static final int NONE = -1;
+    private static final int LEAST_INT = -2147483648;
 
     // A number is a byte times a factor, so at most 128 * 1000: six digits, and DIGITS gives the most pairs.
     private static final int PAIRS_OF_NUMBER = 6;
@@ -48,7 +49,7 @@ public final class ReduceCluster {
     private boolean underWay = false;
     private int chunkCount = 0;
     private int latestMapper = NONE;
-    private int nextFilter = Integer.MIN_VALUE;
+    private int nextFilter = LEAST_INT;
     private int ticks = 0;
     private int jobsEnded = 0;
     private int secondTimes = 0;
@@ -617,7 +618,7 @@ public final class ReduceCluster {
         int reducer = REDUCE_SUM;
         // None before the first job: so there is no output before one has ended.
         int partitions = 0;
-        int least = Integer.MIN_VALUE;
+        int least = LEAST_INT;
 
         Job() {
             for (int p = 0; p < PARTITIONS; p++) {

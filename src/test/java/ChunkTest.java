@@ -39,6 +39,24 @@ public final class ChunkTest {
             find(-1) -> -42
             find(2) -> 6
             """);
+        script.play("the greatest and the least long", """
+            chunk(9223372036854775807, 6, 1) -> 0   // -1 six times
+            chunk(-9223372036854775808, 6, 1) -> 1  // 0 six times
+            begin(4, 1, 1, 2) -> 2
+            count(6) -> 18
+            run(100)
+            find(-1) -> 6
+            find(0) -> 6
+            find(2) -> 6
+            find(1) -> missing
+            """);
+        script.play("a byte is below 0 from 128 on", """
+            chunk(0x807F, 2, 1) -> 0             // 127, -128
+            begin(4, 0, 1, 2) -> 1
+            run(100)
+            find(1) -> 127
+            find(-1) -> -128
+            """);
         script.play("factors from -1000 to 1000", """
             chunk(0x80, 1, -1000) -> 0
             chunk(0x80, 1, 1000) -> 1

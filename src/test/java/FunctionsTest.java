@@ -107,6 +107,42 @@ public final class FunctionsTest {
             find(1) -> -2
             find(2) -> -1
             """);
+        script.play("the greatest and the least sums", """
+            chunk(0x808080808080, 6, 1000) -> 0  // -128000 six times
+            chunk(0x808080808080, 6, 1000) -> 1
+            chunk(0x808080808080, 6, 1000) -> 2
+            chunk(0x808080808080, 6, -1000) -> 3
+            chunk(0x808080808080, 6, -1000) -> 4
+            chunk(0x808080808080, 6, -1000) -> 5
+            begin(4, 0, 1, 6) -> 6
+            run(100)
+            find(-1) -> -2304000
+            find(1) -> 2304000
+            find(2) -> 36
+            begin(3, 2, 1, 6) -> 6
+            run(100)
+            output(0, -1, 0) -> 2
+            find(-64000) -> -128000
+            find(64000) -> 128000
+            """);
+        script.play("a reducer begins with the first value", """
+            chunk(0xF7, 1, 1) -> 0               // -9 alone
+            begin(2, 0, 1, 2)
+            run(100)
+            find(0) -> -9
+            begin(2, 1, 1, 2)
+            run(100)
+            find(0) -> 1
+            begin(2, 2, 1, 2)
+            run(100)
+            find(0) -> -9
+            begin(2, 3, 1, 2)
+            run(100)
+            find(0) -> -9
+            begin(2, 4, 1, 2)
+            run(100)
+            find(0) -> -9
+            """);
         script.play("CHAIN wraps", """
             chunk(0x7E7E7E7E7E7E, 6, 1000) -> 0  // 126000 six times
             begin(2, 3, 1, 2)

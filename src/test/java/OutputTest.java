@@ -62,6 +62,21 @@ public final class OutputTest {
             output(1, 0, 0) -> missing
             output(2, -1, 0) -> 0
             """);
+        script.play("no pair at all", """
+            chunk(0x0503FF, 3, 1) -> 0           // odd: none by HALVES
+            begin(3, 0, 3, 2) -> 1
+            count(6) -> 0
+            task(true, 0, 1) -> 6
+            task(true, 0, 2) -> 0
+            run(6) -> 6
+            count(1) -> 0                        // one unit for each reduce task, in the same tick
+            count(3) -> 1
+            output(0, -1, 0) -> 0
+            output(1, -1, 1) -> 0
+            output(2, -1, 0) -> 0
+            output(0, 0, 0) -> missing
+            find(0) -> missing
+            """);
         script.play("values as they came, over buffers and chunks", """
             chunk(0x0C0103040609, 6, 1) -> 0     // key 0: 9, 6, 3, 12; key 1: 4, 1
             chunk(0x070A0F, 3, 1) -> 1           // key 0: 15; key 1: 10, 7

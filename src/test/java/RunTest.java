@@ -189,6 +189,91 @@ public final class RunTest {
             find(1) -> 5
             find(2) -> 7
             """);
+        script.play("reduce tasks a second time: of those alike the least number", """
+            chunk(0x04030403, 4, 1) -> 0         // 9 units; then 3 for each of two partitions
+            speed(0, 4)
+            begin(2, 0, 2, 6) -> 1
+            run(3) -> 3
+            task(true, 0, 3) -> 0
+            ofWorker(1, 1) -> 8
+            ofWorker(1, 2) -> 2
+            ofWorker(2, 1) -> 9
+            ofWorker(2, 2) -> 2
+            ofWorker(3, 1) -> 8
+            ofWorker(3, 2) -> 2                  // from its beginning
+            count(4) -> 2
+            run(1) -> 1
+            ofWorker(0, 1) -> -1                 // 9 is done at once, the second time
+            task(false, 1, 3) -> 0
+            count(4) -> 3
+            """);
+        script.play("reduce tasks need no chunk to be read", """
+            chunk(0x0303, 2, 1) -> 0             // homes 0 and 1; 5 units, then 3
+            worker(0, false)
+            worker(3, false)
+            begin(2, 0, 1, 2) -> 1
+            run(1) -> 1
+            ofWorker(1, 1) -> 0
+            ofWorker(2, 1) -> 0
+            worker(1, false)
+            run(4) -> 4                          // worker 2 goes on
+            task(true, 0, 3) -> 2
+            run(1) -> 1
+            ofWorker(2, 1) -> 8
+            worker(3, true)
+            count(4) -> 1
+            run(1) -> 1
+            ofWorker(3, 1) -> 8                  // a second time, too
+            count(4) -> 2
+            run(100) -> 1
+            find(0) -> 6
+            """);
+        script.play("after the last worker: the job has ended, whoever was the last", """
+            chunk(3, 1, 1) -> 0                  // 3 units, then 2
+            worker(0, false)
+            worker(2, false)
+            worker(3, false)
+            begin(2, 0, 1, 2) -> 1
+            run(3) -> 3
+            count(1) -> 1
+            worker(3, true)
+            run(2) -> 2                          // worker 1 is done first, 3 has nothing to do any more
+            count(1) -> 0
+            ofWorker(1, 3) -> 5
+            ofWorker(3, 3) -> 1
+            new
+            chunk(3, 1, 1) -> 0
+            chunk(3, 1, 1) -> 1
+            chunk(3, 1, 1) -> 2
+            worker(0, false)
+            worker(1, false)
+            worker(2, false)
+            begin(2, 0, 1, 2) -> 3
+            run(100) -> notnow
+            worker(1, true)
+            run(3) -> 3                          // 1 does 0, and 3 does 1: all map tasks are done
+            task(true, 0, 3) -> 1
+            task(true, 1, 3) -> 3
+            task(true, 2, 3) -> 3
+            run(4) -> 4                          // 4 units
+            count(3) -> 1
+            find(0) -> 9
+            """);
+        script.play("a tick in which a task has been done is not stuck, the next one is", """
+            chunk(3, 1, 1) -> 0                  // homes 0 and 1
+            chunk(3, 1, 1) -> 1                  // homes 1 and 2
+            worker(0, false)
+            worker(1, false)
+            worker(3, false)
+            begin(2, 0, 1, 2) -> 2
+            run(3) -> 3
+            ofWorker(2, 1) -> -1
+            task(true, 1, 0) -> 2
+            run(100) -> notnow
+            run(1) -> notnow
+            count(2) -> 5
+            count(1) -> 1
+            """);
         script.play("stuck: that tick counts, the job stays", """
             chunk(3, 1, 1) -> 0
             begin(2, 0, 1, 2) -> 1
@@ -268,6 +353,21 @@ public final class RunTest {
             output(0, -1, 0) -> missing
             find(0) -> missing
             count(3) -> 0
+            """);
+        script.play("ticks of a run that fails stay, and so do those before it", """
+            chunk(0x0003, 2, 1) -> 0             // 5 units, then 3
+            begin(2, 4, 1, 2) -> 1
+            run(100) -> fails
+            count(2) -> 7
+            ofWorker(1, 3) -> 7
+            count(1) -> 0
+            begin(2, 0, 1, 2) -> 1               // the next one may begin at once
+            ofWorker(1, 1) -> -1
+            task(true, 0, 0) -> 0
+            task(false, 0, 0) -> 0
+            run(100) -> 7
+            count(2) -> 14
+            find(0) -> 3
             """);
         script.play("it fails when its reduce task is done, not before", """
             chunk(0x010403000603, 6, 1) -> 0     // key 0: 3, 6, 0, 3; key 1: 4, 1

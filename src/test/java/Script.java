@@ -8,7 +8,8 @@ import java.util.regex.Pattern;
  * Longs may be written 0x..; what stands behind {@code //} is a remark.
  */
 final class Script {
-    private static final Pattern LINE = Pattern.compile("(\\w+)\\((.*?)\\)(?:\\s*->\\s*(\\S+))?");
+    private static final Pattern LINE = Pattern.compile("(\\w+\\(.*?\\))(?:\\s*->\\s*(\\S+))?");
+    private static final Pattern CALL = Pattern.compile("(\\w+)\\((.*)\\)");
 
     private int wrong = 0;
     private int calls = 0;
@@ -35,9 +36,8 @@ final class Script {
         if (!parts.matches()) {
             throw new IllegalArgumentException("no call: " + line);
         }
-        String[] arguments = parts.group(2).isEmpty() ? new String[0] : parts.group(2).split("\\s*,\\s*");
-        String got = object.answer(parts.group(1), arguments);
-        String due = alias(parts.group(3));
+        String got = object.answerTo(parts.group(1));
+        String due = alias(parts.group(2));
         calls++;
         boolean right = due == null ? !got.startsWith("throws.") : got.equals(due);
         if (!right) {
@@ -46,7 +46,8 @@ final class Script {
         }
     }
 
-    private static String alias(String due) {
+    /** The short words for exceptions, as answers are written; all else stays. */
+    static String alias(String due) {
         if (due == null) {
             return null;
         }
@@ -74,6 +75,15 @@ final class Script {
     /** A ReduceCluster whose calls and answers are texts. */
     static final class Answering {
         private final ReduceCluster cluster = new ReduceCluster();
+
+        /** The answer to a call that is written out: {@code run(100)}. */
+        String answerTo(String call) {
+            Matcher parts = CALL.matcher(call);
+            if (!parts.matches()) {
+                throw new UnsupportedOperationException("no call: " + call);
+            }
+            return answer(parts.group(1), parts.group(2).isEmpty() ? new String[0] : parts.group(2).split("\\s*,\\s*"));
+        }
 
         String answer(String name, String... a) {
             try {

@@ -65,6 +65,36 @@ public final class SpeedTest {
             run(1) -> 1
             ofWorker(0, 2) -> 7
             """);
+        script.play("of a worker that is down, too", """
+            chunk(0, 6, 1) -> 0                  // 15 units
+            worker(0, false)
+            speed(0, 4)
+            ofWorker(0, 0) -> 0
+            begin(0, 0, 1, 2) -> 1
+            run(1) -> 1
+            ofWorker(0, 3) -> 0
+            worker(0, true)
+            run(1) -> 1
+            ofWorker(0, 3) -> 0                  // two do it already
+            worker(2, false)
+            run(1) -> 1
+            ofWorker(0, 3) -> 4
+            """);
+        script.play("each has its own", """
+            chunk(0, 6, 1)
+            chunk(0, 6, 1)
+            chunk(0, 6, 1)
+            chunk(0, 6, 1)
+            speed(1, 2)
+            speed(2, 3)
+            speed(3, 4)
+            begin(0, 0, 1, 2) -> 4
+            run(1) -> 1
+            ofWorker(0, 3) -> 1
+            ofWorker(1, 3) -> 2
+            ofWorker(2, 3) -> 3
+            ofWorker(3, 3) -> 4
+            """);
         script.play("kept over a job's end and a worker's fall", """
             chunk(3, 1, 1) -> 0
             speed(0, 4)
